@@ -1036,7 +1036,7 @@ public final class ButlerRemembers {
         private int stepCount = 0;
         private final int[] stack = new int[STACK_LIMIT];
         private int top = 0;
-        // A house without a text has none of the bytes either.
+        // Looked at only while a text is learned; the bare house never learns one.
         private byte[] bytes = new byte[0];
         private int length = 0;
         private int place = 0;

@@ -1061,6 +1061,11 @@ public final class ButlerRemembers {
             return place >= 0 && place < length ? bytes[place] : END;
         }
 
+        /** Where the sign stands among these; below 0, if it doesn't, or if the text has ended. */
+        private static int placeIn(String signs, int sign) {
+            return sign == END ? END : signs.indexOf((char) sign);
+        }
+
         private boolean takeWord(String word) {
             for (int i = 0; i < word.length(); i++) {
                 if (sign() != word.charAt(i)) {
@@ -1119,12 +1124,12 @@ public final class ButlerRemembers {
         }
 
         private boolean takeTest() {
-            int letter = LETTERS.indexOf((char) sign());
+            int letter = placeIn(LETTERS, sign());
             if (letter < 0) {
                 return false;
             }
             place++;
-            int comparison = SIGNS.indexOf((char) sign());
+            int comparison = placeIn(SIGNS, sign());
             if (comparison < 0) {
                 return false;
             }

@@ -244,7 +244,7 @@ public final class ActBoundsTest {
     private static void change(Run x) {
         x.does("row", 0, 0, 9).does("row", 0, 1, 9).does("mind", 0, 1).does("tell", 1, 0).does("master", 6, 9);
         x.does("row", 3, 2, 9).does("deed", 3, 255, 0).does("footman", 255).does("out", 1, false).does("out", 3, true);
-        x.does("see", -1, 0, 0, true).does("see", 3, 7, 9, false).does("plan", -1, 0).times(9, "plan", 2, 3);
+        x.does("see", -1, 0, 0, true).does("see", 0, 1, 0, false).does("plan", -1, 0).times(9, "plan", 2, 3);
         x.does("book", -1, 0).times(8, "book", 3, 255).does("pass", 60);
     }
 

@@ -114,6 +114,12 @@ public final class MasterBoundsTest {
         for (int what : new int[] {-1, 4, 5, 8, 9, 18, 19, Run.LEAST, Run.GREATEST}) {
             x.due(-1, "of", 0, what).due(-1, "of", 1, what);
         }
+        Run.says("Promise 3: NONE: no such MASTER, whatever is asked of it");
+        for (int p : new int[] {-1, 1, 5, 6, Run.LEAST, Run.GREATEST}) {
+            for (int what = 0; what <= 18; what++) {
+                x.due(-1, "of", p, what);
+            }
+        }
     }
 
     private static void kept() {
@@ -334,5 +340,18 @@ public final class MasterBoundsTest {
         Run.says("Terms: the ROW is of one MASTER alone");
         of(6, 0).does("master", 6, 0).does("row", 0, 3, 7).due(0, "row", 1, 0, 0).due(0, "row", 1, 3, 1)
             .due(7, "row", 0, 3, 7);
+        Run.says("Terms: the ROWS of six, each told as its MASTER comes, stay as the others come");
+        Run x = new Run();
+        for (int p = 0; p < 6; p++) {
+            x.due(p, "master", 6, 0);
+            for (int part = 0; part < 4; part++) {
+                x.due(0, "row", p, part, p + part + 1);
+            }
+        }
+        for (int p = 0; p < 6; p++) {
+            for (int part = 0; part < 4; part++) {
+                x.due(p + part + 1, "grip", p, 0, part).due(p + part + 1, "row", p, part, 0);
+            }
+        }
     }
 }

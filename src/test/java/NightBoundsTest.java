@@ -205,6 +205,8 @@ public final class NightBoundsTest {
         x.due(10, "can", 0, 0).due(0, "can", 0, 1).does("see", 0, 0, 0, false).due(0, "can", 0, 0).due(-5, "can", 0, 1);
         Run.says("Terms: CAN: all of SEEN that is of it, and of no other");
         x.does("master", 0, 5).due(10, "can", 1, 0).due(0, "can", 1, 1);
+        Run y = new Run().times(6, "master", 0, 0).does("see", 5, 0, 0, false).does("see", 1, 0, 0, true);
+        y.due(0, "wrong").due(0, "can", 5, 0).due(10, "can", 0, 0).due(10, "can", 1, 0);
     }
 
     private static void canByTheHouse() {

@@ -21,12 +21,15 @@ public final class TextBoundsTest {
         fourDeep();
         fiveDeep();
         besideOneAnother();
+        waitingAtEachDepth();
         faultChangesNoHouse();
+        faultLeavesNothing();
         fullOfHouses();
         newestHolds();
         hours();
         numbersInTests();
         valuesOfTests();
+        eachLetterAndSign();
         Run.end();
     }
 
@@ -314,6 +317,28 @@ public final class TextBoundsTest {
         fine("keep 1 !!!(p=1&p=1|p=2)&!!!!p=1;lose 1 ((((p=1))))");
     }
 
+    private static void waitingAtEachDepth() {
+        Run.says("Terms: E: T or T|E. T: F or F&T, at each depth to the fourth");
+        String deep = "p=9|p=0&(p=9|p=0&(p=9|p=0&(p=9|p=0&(p=9|p=0&f=2))))";
+        Run x = new Run().does("master", 0, 0).house("keep 5 " + deep);
+        x.due(6, "grip", 0, 2, 0).due(1, "grip", 0, 1, 0).due(1, "grip", 0, 3, 0);
+        Run y = new Run().does("master", 0, 0).house("keep 5 " + deep.replace("p=0&", "p=9&"));
+        y.due(1, "grip", 0, 2, 0).house("keep 5 " + deep.replace("p=9|", "p=0|")).due(6, "grip", 0, 3, 0);
+    }
+
+    private static void faultLeavesNothing() {
+        Run.says("Promise 13: what stood ahead of a FAULT is in no later HOUSE");
+        new Run().does("master", 0, 0).text("keep 9 p=0;hours 3;").due(-29, "house").house("keep 1 f=7")
+            .due(6, "told", 1).due(1, "grip", 0, 0, 0).due(2, "grip", 0, 7, 0);
+        new Run().does("master", 0, 0).text("hours 3x").due(-17, "house").house("keep 1 f=7").due(6, "told", 1);
+        Run.says("Promise 13: THE TEXT ends where it ends, whatever was fed ahead of it");
+        new Run().text("hours 123").due(-18, "house").text("hours 1").due(0, "house").due(1, "told", 1);
+        new Run().text("hours 1;hours 2").due(0, "house").text("hours 1").due(1, "house").due(1, "told", 1)
+            .text("hours").due(-15, "house").text("hours ").due(-16, "house").due(-10, "house");
+        new Run().does("master", 0, 0).house("keep 1 p=0|f>0&f<5").text("keep 1 p=0|f>").due(-23, "house")
+            .house("keep 1 p=0").due(2, "grip", 0, 0, 0);
+    }
+
     private static void faultChangesNoHouse() {
         Run.says("Promise 13: -10 less the FAULT (the one that held holds)");
         Run x = new Run().does("master", 0, 0).house("keep 5 p=0;hours 9");
@@ -389,5 +414,26 @@ public final class TextBoundsTest {
         y.due(22, "grip", 0, 0, 0).due(41, "grip", 0, 0, 6).due(21, "grip", 0, 0, 7).due(11, "grip", 0, 0, 9);
         y.due(2, "grip", 0, 0, 10).due(41, "grip", 0, 0, 13).due(21, "grip", 0, 0, 14).due(42, "grip", 0, 0, 20);
         y.until(9999).due(11, "grip", 0, 0, 0).due(2, "grip", 0, 0, 1).due(41, "grip", 0, 0, 3).due(21, "grip", 0, 0, 4);
+    }
+
+    private static boolean holds(int value, int sign, int n) {
+        return sign == 0 ? value < n : sign == 1 ? value == n : value > n;
+    }
+
+    private static void eachLetterAndSign() {
+        Run.says("Terms: each letter with < and = and >, for each FACT");
+        int[] values = {1, 3, 8, -1, 6, 2};
+        for (int letter = 0; letter < 6; letter++) {
+            for (int sign = 0; sign < 3; sign++) {
+                for (int n = 0; n < 10; n++) {
+                    Run x = new Run().does("master", 0, 0).does("master", 3, 8).does("pass", 16);
+                    x.house("keep 40 " + "pkvfds".charAt(letter) + "<=>".charAt(sign) + n);
+                    for (int fact = 0; fact < 8; fact++) {
+                        int value = letter == 3 ? fact : values[letter];
+                        x.due(holds(value, sign, n) ? 20 : 0, "grip", 1, fact, 0);
+                    }
+                }
+            }
+        }
     }
 }

@@ -1054,7 +1054,21 @@ public final class ButlerRemembers {
                 place++;
                 fits = takeClause();
             }
-            return fits && place == length ? FAULTLESS : place;
+            if (!fits || place != length) {
+                return place;
+            }
+            settleFactTests();
+            return FAULTLESS;
+        }
+
+        /** What a test says of a fact's number is the same on every day, so it is put as a set once. */
+        private void settleFactTests() {
+            for (int i = 0; i < stepCount; i++) {
+                int step = steps[i] / STEP;
+                if (step < PUT && step / 3 == FACT_LETTER) {
+                    steps[i] = PUT * STEP + factsThat(step % 3, steps[i] % STEP);
+                }
+            }
         }
 
         private int sign() {
@@ -1134,13 +1148,7 @@ public final class ButlerRemembers {
                 return false;
             }
             place++;
-            if (!takeNumber()) {
-                return false;
-            }
-            if (letter == FACT_LETTER) {
-                return addStep(PUT, factsThat(comparison, number));
-            }
-            return addStep(letter * 3 + comparison, number);
+            return takeNumber() && addStep(letter * 3 + comparison, number);
         }
 
         private boolean takeNumber() {
